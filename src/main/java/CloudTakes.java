@@ -41,15 +41,15 @@ public final class CloudTakes {
     private int faultPlace = NONE;
     private Plan plan = new Plan();
     private Plan sparePlan = new Plan();
-    private final Parser parser = new Parser();
+    private final Parser parser = new Parser(sparePlan);
     private final Scene scene = new Scene();
     private final Scene imageKept = new Scene();
     private boolean hasImage = false;
     /** A state to try things on, which are not to be so in truth. */
     private final State trialState = new State();
-    private final Outlook outlook = new Outlook();
-    private final DayRun run = new DayRun();
-    private final Search search = new Search();
+    private final Outlook outlook = new Outlook(plan, trialState);
+    private final DayRun run = new DayRun(plan);
+    private final Search search = new Search(plan, trialState);
 
     public CloudTakes() {
     }
@@ -940,10 +940,14 @@ public final class CloudTakes {
         int faultPlace = NONE;
         private int fault = 0;
         private final Tokens tokens = new Tokens();
-        private Plan into = null;
+        private Plan into;
         private boolean hasDay = false;
         private boolean hasMove = false;
         private boolean hasCold = false;
+
+        Parser(Plan plan) {
+            into = plan;
+        }
 
         /** 0, or the fault; the plan is good only without one. */
         int reads(byte[] text, int length, Plan told) {
@@ -1318,9 +1322,14 @@ public final class CloudTakes {
         final int[] left = new int[MINUTES_MOST + 1];
         /** The sky's light in each minute of the day. */
         private final int[] light = new int[MINUTES_MOST];
-        private Plan plan = null;
-        private State state = null;
+        private Plan plan;
+        private State state;
         private int day = 0;
+
+        Outlook(Plan told, State now) {
+            plan = told;
+            state = now;
+        }
 
         void looks(Plan told, State now, int dayEnd) {
             plan = told;
@@ -1419,11 +1428,16 @@ public final class CloudTakes {
         private final int[] ends = new int[SHOTS_MOST];
         private final int[] values = new int[Rules.VALUES];
         private final State state = new State();
-        private final Outlook outlook = new Outlook();
-        private Plan plan = null;
+        private final Outlook outlook;
+        private Plan plan;
         /** Shots that are not had and wait for none, where all are and where they are not. */
         private int openHere = 0;
         private int openThere = 0;
+
+        DayRun(Plan told) {
+            plan = told;
+            outlook = new Outlook(told, state);
+        }
 
         void runs(Plan told, State start, int rule) {
             plan = told;
@@ -1530,9 +1544,9 @@ public final class CloudTakes {
         int mostEnd = 0;
         int mostSet = 0;
         final int[] row = new int[SHOTS_MOST];
-        private final Outlook outlook = new Outlook();
-        private Plan plan = null;
-        private State state = null;
+        private final Outlook outlook;
+        private Plan plan;
+        private State state;
         private int day = 0;
         /** Of each shot the first minute, told one or later, in which it would be had. */
         private final int[][] firstChance = new int[SHOTS_MOST][MINUTES_MOST + 1];
@@ -1542,6 +1556,12 @@ public final class CloudTakes {
         private final int[] soonestEnd = new int[SETS * PLACES];
         /** Of each set and place when one must be there at the latest, all of the set to be had. */
         private final int[] latestStart = new int[SETS * PLACES];
+
+        Search(Plan told, State now) {
+            plan = told;
+            state = now;
+            outlook = new Outlook(told, now);
+        }
 
         void prepares(Plan told, State now, int dayEnd) {
             plan = told;

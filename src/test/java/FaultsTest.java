@@ -143,6 +143,12 @@ public final class FaultsTest {
         bad(1, "rule 1@>2;");
         bad(3, "rule @foo;");
         bad(3, "rule @or;");
+        bad(3, "rule @zazbz;");
+        bad(1, "rule @{;");
+        bad(1, "rule @`;");
+        bad(1, "rule @:;");
+        bad(3, "rule @lengths;");
+        bad(3, "rule @lengt;");
         bad(3, "rule @and 1;");
         bad(3, "rule 1 or @sun;");
         bad(3, "rule 1+@not 2;");

@@ -60,16 +60,16 @@ public final class ModelTest {
 
     private void run(int seed) {
         boolean big = seed % 40 == 39;
-        tell(plan(big));
-        for (int i = 0; i < 60; i++) {
-            act();
-            if (i % 6 == 0) {
-                ask();
+        // One plan and many acts, or plans one behind the other on the same object.
+        int plans = seed % 3 == 0 ? 4 : 1;
+        for (int k = 0; k < plans; k++) {
+            tell(upTo(5) == 0 && plans > 1 ? plan(big) + "x" : plan(big));
+            for (int i = 0; i < 60 / plans; i++) {
+                act();
+                if (i % 6 == 0) {
+                    ask();
+                }
             }
-        }
-        if (seed % 3 == 0) {
-            tell(plan(false));
-            ask();
         }
     }
 
@@ -92,9 +92,11 @@ public final class ModelTest {
 
     private String plan(boolean big) {
         StringBuilder b = new StringBuilder();
-        int day = big ? 300 + upTo(180) : 10 + upTo(60);
+        int day = big ? upTo(3) == 0 ? 480 : 300 + upTo(180) : 10 + upTo(60);
         int shots = big ? 8 : upTo(5);
-        b.append("day ").append(day).append(';');
+        if (big || upTo(15) > 0) {
+            b.append("day ").append(day).append(';');
+        }
         if (upTo(9) > 0) {
             b.append("move ").append(upTo(big ? 60 : 12)).append(';');
         }
@@ -119,7 +121,7 @@ public final class ModelTest {
         for (int i = 0; i < rules; i++) {
             b.append("rule ").append(expr(3)).append(';');
         }
-        return b.length() > 700 ? plan(big) : b.toString();
+        return b.length() > 690 ? plan(big) : b.toString();
     }
 
     private String expr(int depth) {

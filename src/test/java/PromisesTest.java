@@ -175,8 +175,35 @@ public final class PromisesTest {
         eq("a take of a shot", y.take(1), 1);
         eq("anew", Tape.plan(y, "wide 0 1 0 9;wide 0 1 0 9;"), 0);
         counts(y, 7, 0, 5, 0);
+        again();
         eq("a sky longer than the day", Tape.plan(y, "sun 480;".repeat(16) + "day 10;"), 0);
         eq("sky(0, 1)", y.sky(0, 1), 10);
+    }
+
+    /** Nothing of an earlier plan, nor of one with a fault, is left in a later one. */
+    private static void again() {
+        String full = "sun 9;".repeat(16) + "day 400;move 7;cold 8;wide 0 3 0 9;near 0 2 0 9 after 0;"
+                + "rule 0;".repeat(4);
+        CloudTakes x = Tape.planned(full);
+        x.take(0);
+        for (int i = 0; i < 3; i++) {
+            int rules = x.count(4);
+            eq("with a fault", Tape.plan(x, full + "x"), 1);
+            counts(x, 4, rules);
+            eq("once more", Tape.plan(x, full), 0);
+            counts(x, 0, 2, 1, 400, 2, 7, 3, 8, 4, 4);
+            eq("sky(143, 1)", x.sky(143, 1), 1);
+            eq("day by a rule", x.day(3, 0), 0);
+            x.clouds(1, 1, false);
+            eq("spoilt", x.take(0), 0);
+            eq("another one", Tape.plan(x, "cloud 2;sun 2;wide 0 3 0 9;wide 0 2 0 9;rule length;"), 0);
+            counts(x, 0, 2, 1, 240, 2, 50, 3, 1, 4, 1, 5, 0, 7, 0, 8, 0);
+            eq("sky(0, 1)", x.sky(0, 1), 2);
+            eq("sky(4, 1)", x.sky(4, 1), 236);
+            eq("shot(1, 5)", x.shot(1, 5), NONE);
+            eq("shot(0, 7)", x.shot(0, 7), 0);
+            eq("day by a rule", x.day(0, 0), 2);
+        }
     }
 
     private static void fault() {
@@ -623,6 +650,14 @@ public final class PromisesTest {
         noSuch("order(4)", () -> x.order(4));
         noSuch("order(-1)", () -> x.order(-1));
         noSuch("order(0) of none", () -> new CloudTakes().order(0));
+        CloudTakes v = Tape.planned("day 480;wide 0 30 450 480;inside 0 30 0 480;move 0;");
+        eq("to the end of the longest day", v.most(1), 480);
+        eq("order(0)", v.order(0), 1);
+        eq("order(1)", v.order(1), 0);
+        for (int i = 0; i < 8; i++) {
+            v.await(60);
+        }
+        eq("the longest day is over", v.most(0), 0);
         CloudTakes y = Tape.planned("day 20;wide 0 3 4 9;wide 0 2 0 9;wide 0 2 0 9;");
         // 0 can begin in 4; both others fit ahead of it: all by 7.
         eq("by when", y.most(1), 7);
@@ -674,6 +709,11 @@ public final class PromisesTest {
         y.sets(0, true);
         y.clouds(0, 39, true);
         eq("whatever the light", y.inside(), 13);
+        CloudTakes z = Tape.planned("day 10;move 0;inside 0 10 0 9;");
+        eq("in minute 0", z.inside(), 0);
+        z.await(1);
+        eq("a minute late", z.inside(), NONE);
+        eq("the longest day", Tape.planned("day 480;move 0;inside 0 1 0 480;").inside(), 479);
     }
 
     private static void worth() {
@@ -1006,6 +1046,23 @@ public final class PromisesTest {
             counts(x, 9, 0, 5, 9);
             eq("acts are kept", x.undo(), 2);
             eq("shot(1, 7)", x.shot(1, 7), 0);
+            eq("acts are kept", x.undo(), 1);
+            eq("acts are kept", x.undo(), 0);
+            counts(x, 5, 0, 8, 0);
+            eq("acts are kept", x.undo(), NONE);
+        }
+        CloudTakes y = Tape.planned(PLAN);
+        y.see(3, 13, true);
+        y.see(0, 4, true);
+        y.image();
+        for (int i = 0; i < 2; i++) {
+            eq("which()", y.which(), 1);
+            y.forget();
+            y.see(2, 29, i == 0);
+            y.see(1, 4, false);
+            y.see(1, 4, true);
+            eq("restore()", y.restore(), true);
+            counts(y, 14, 2);
         }
     }
 }
