@@ -574,6 +574,11 @@ public final class PromisesTest {
         gives("hour=0", true);
         gives("waited=0", true);
         gives("tries=0", true);
+        for (int inner = 0; inner < 2; inner++) {
+            String deep = "0 or 1 and 0<0+1*(".repeat(5) + "0 or 1 and 0<0+1*" + inner + ")".repeat(5);
+            CloudTakes d = Tape.planned("day 10;wide 0 2 0 5;rule " + deep + ";");
+            eq("as deep as can be", d.day(0, 0), inner);
+        }
         CloudTakes x = Tape.planned("day 480;wide 2 3 100 200;near 0 1 0 300;rule hour*0+(kind=1 and hour=2);"
                 + "rule (kind=0)*(until<3);rule kind=1 and waited=130;rule kind and left<351;");
         eq("hour", x.idle(0, 0), 480 - 1);
