@@ -333,6 +333,11 @@ final class DaySentences {
         r.eq("what is had isn't among them", x.most(2), 14);
         x.await(3);
         r.eq("from now on: 1 is too late", x.most(2), 12);
+        CloudTakes moved = Tape.planned("day 40;move 10;wide 0 1 0 5;");
+        r.eq("out", moved.most(0), 1);
+        moved.move(true);
+        r.eq("inside, where it was not before", moved.most(0), 0);
+        r.eq("inside, where it was not before", moved.soonest(1), NONE);
         eight();
         r.says("of like ones that which can be ended soonest;");
         CloudTakes y = Tape.planned("day 10;wide 0 7 0 9;wide 0 6 0 9;wide 0 6 0 9;");
@@ -355,6 +360,9 @@ final class DaySentences {
         order("day 20;move 3;wide 0 4 0 19;inside 0 1 0 3;", 11, 1, 0);
         order("day 20;wide 0 3 0 9;wide 0 2 0 0;wide 0 1 0 4;", 6, 1, 2, 0);
         order("day 20;move 3;wide 0 1 0 19;inside 0 1 3 3;inside 0 1 3 10;", 9, 1, 2, 0);
+        // There is time to take 0 twice, but once is what a row has.
+        order("day 30;wide 0 1 0 29;wide 0 1 20 20;", 21, 0, 1);
+        order("day 30;wide 0 1 0 29;wide 0 1 0 29;inside 0 1 20 20;move 3;", 21, 0, 1, 2);
         // 0 ahead of the others ends as soon, though one waits for it.
         order("day 20;sun 3;cloud 1;sun 9;wide 1 4 0 19;wide 1 2 0 19;", 8, 1, 0);
         order("day 20;cloud 3;sun 4;cloud 9;wide 1 4 0 19;wide 2 3 0 19;wide 2 9 0 19;", 16, 1, 0, 2);
@@ -434,6 +442,9 @@ final class DaySentences {
         r.eq("without such shots", Tape.planned("wide 0 1 0 9;near 0 1 0 9;").inside(), NONE);
         r.eq("a window behind the day", Tape.planned("move 0;inside 0 1 240 480;").inside(), NONE);
         r.eq("its last minute", Tape.planned("move 0;inside 0 1 239 480;").inside(), 239);
+        r.eq("its first minute", Tape.planned("move 0;inside 0 1 0 0;").inside(), 0);
+        r.eq("two in one minute", Tape.planned("move 0;inside 0 1 1 1;inside 0 1 1 1;").inside(), NONE);
+        r.eq("two in two minutes", Tape.planned("move 0;inside 0 1 0 1;inside 0 1 0 1;").inside(), 0);
         later.move(true);
         r.eq("all are inside", later.inside(), NONE);
         CloudTakes had = Tape.planned("move 1;inside 0 1 0 9;");
@@ -507,6 +518,11 @@ final class DaySentences {
         r.eq("up to NOW at the least", x.shorter(480), 0);
         r.eq("5 behind NOW", x.shorter(10), 1);
         r.counts(x, 1, 20, 5, 5);
+        CloudTakes minute = Tape.planned("day 10;move 0;wide 0 1 0 9;inside 0 1 0 9;");
+        r.eq("a day of 2 minutes", minute.shorter(8), 2);
+        r.eq("a day of a minute", minute.shorter(9), 1);
+        r.eq("a day of none, in minute 0", minute.shorter(10), 0);
+        r.eq("a day of none, in minute 0", minute.shorter(480), 0);
         r.says("IDLE: how many MINUTES one waits in A DAY BY A RULE, how often all move in it.");
         CloudTakes y = Tape.planned("day 30;move 4;inside 0 3 0 29;wide 0 5 0 29 after 0;rule 1;rule 2-kind;");
         r.eq("4 and 3 and 4 and 5, then 14", y.idle(0, 0), 14);
@@ -722,6 +738,11 @@ final class DaySentences {
         y.undo();
         r.says("cloud, then sun, and so on, cloud behind them:");
         r.eq("every part of its kind, and 80 to 99 of cloud", y.week(NONE, 1, 1, 0), 7);
+        CloudTakes last = Tape.planned("day 480;sun 480;wide 2 1 479 479;");
+        r.eq("15 parts of 30 are 450 minutes: the last of the longest day is cloud", last.week(NONE, 1, 10, 0), 10);
+        r.eq("15 parts of 30 are 450 minutes: the last of the longest day is cloud", last.week(NONE, -1, 10, 1), 1);
+        last.await(60);
+        r.eq("so it is from 60 on, with 6 parts", last.week(NONE, 1, 1, 0), 1);
         r.says("SHOTS that are HAD in all; the fewest in one; FILM in all (of what is taken in these days).");
         r.eq("no days", y.week(NONE, 1, 0, 0), 0);
         r.eq("no days", y.week(NONE, 1, 0, 1), 0);
@@ -784,6 +805,33 @@ final class DaySentences {
             r.eq("restore()", x.restore(), true);
         }
         keepsAll(x);
+        fullImage();
+    }
+
+    /** As many acts as are kept, and as much as can be seen. */
+    private void fullImage() {
+        CloudTakes x = Tape.planned("day 60;wide 0 1 0 59;wide 0 1 50 59;");
+        for (int i = 0; i < 41; i++) {
+            x.await(1);
+        }
+        for (int i = 0; i < 8; i++) {
+            x.see(i & 1, 49 + i, i > 1);
+        }
+        r.eq("0 is had in 41: not as seen", x.which(), 0);
+        x.image();
+        x.await(1);
+        x.forget();
+        r.eq("nothing is seen", x.which(), 16);
+        r.eq("restore()", x.restore(), true);
+        r.counts(x, 5, 41, 13, 40, 14, 8);
+        r.eq("what is seen", x.which(), 0);
+        r.eq("a ninth", x.see(0, 1, true), NONE);
+        for (int i = 39; i >= 0; i--) {
+            r.eq("undo()", x.undo(), i);
+            r.counts(x, 5, i + 1);
+        }
+        r.eq("undo()", x.undo(), NONE);
+        r.counts(x, 5, 1, 14, 8);
     }
 
     private void keepsAll(CloudTakes x) {

@@ -163,6 +163,11 @@ final class PromiseSentences {
         r.eq("no bytes at all", none.plan(0), 0);
         r.counts(none, 0, 0, 1, 240, 2, 50, 3, 1, 4, 0, 5, 0);
         r.eq("all cloud", none.sky(0, 1), 240);
+        CloudTakes many = new CloudTakes();
+        for (int i = 0; i < 10; i++) {
+            r.eq("a long rule anew", Tape.plan(many, "wide 0 1 0 9;rule " + "0+".repeat(330) + i % 2 + ";"), 0);
+            r.eq("its last number counts", many.day(0, 0), i % 2);
+        }
         r.says("or the FAULT (all stays, but STATUS).");
         CloudTakes y = busy();
         int[] before = all(y);
@@ -543,6 +548,8 @@ final class PromiseSentences {
         r.eq("most shots ahead of least film", Tape.planned("day 10;wide 0 3 0 9;rule 0;rule 1;").best(), NONE);
         r.eq("no shots", Tape.planned("rule 1;rule 2;").best(), NONE);
         r.eq("no rules", Tape.planned("wide 0 1 0 9;").best(), NONE);
+        r.eq("no rules, all spoilt", Tape.planned("day 10;sun 1;wide 1 2 0 0;").best(), NONE);
+        r.eq("all spoilt by all", Tape.planned("day 10;sun 1;wide 1 2 0 0;rule 1;rule 2;").best(), NONE);
         r.eq("the fourth", Tape.planned(two + "rule 0;rule 0;rule 0;rule 9-length;").best(), 3);
         CloudTakes x = Tape.planned(two + "rule 9-length;");
         r.eq("now rule 0", x.best(), 0);

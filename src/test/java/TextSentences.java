@@ -149,6 +149,9 @@ final class TextSentences {
         r.illegal("plan(701)", () -> full.plan(701));
         r.eq("699 bytes lack the last ';'", full.plan(699), 1);
         r.eq("fault()", full.fault(), 699);
+        r.bad(1, " ".repeat(694) + "day 10@");
+        r.bad(1, " ".repeat(697) + "sun@");
+        r.bad(1, " ".repeat(691) + "rule left@");
     }
 
     private void tokens() {
@@ -428,6 +431,19 @@ final class TextSentences {
         r.bad(1, "rule 1+@");
         r.bad(1, "rule (1 @");
         r.bad(1, "rule not @");
+        // What stood behind it on an earlier tape, or stands there on this one, is no part of the text.
+        CloudTakes x = new CloudTakes();
+        r.eq("the whole", Tape.plan(x, "day 100;move 7;"), 0);
+        Tape.feed(x, "day 100;move 7;");
+        r.eq("its first 6 bytes", x.plan(6), 1);
+        r.eq("fault()", x.fault(), 6);
+        Tape.feed(x, "day 100;move 7;");
+        r.eq("its first 10 bytes", x.plan(10), 1);
+        r.eq("fault()", x.fault(), 8);
+        Tape.plan(x, "rule lengthy;");
+        Tape.feed(x, "rule lengthy;");
+        r.eq("its first 11 bytes", x.plan(11), 1);
+        r.eq("fault()", x.fault(), 11);
     }
 
     private void faultsTooMuch() {
