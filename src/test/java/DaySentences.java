@@ -366,6 +366,28 @@ final class DaySentences {
         // 0 ahead of the others ends as soon, though one waits for it.
         order("day 20;sun 3;cloud 1;sun 9;wide 1 4 0 19;wide 1 2 0 19;", 8, 1, 0);
         order("day 20;cloud 3;sun 4;cloud 9;wide 1 4 0 19;wide 2 3 0 19;wide 2 9 0 19;", 16, 1, 0, 2);
+        ordersAgain();
+    }
+
+    /** What one order has found must not stay for the next one, in which all has to be ended sooner. */
+    private void ordersAgain() {
+        CloudTakes x = Tape.planned("day 30;sun 10;wide 1 2 0 29;wide 2 2 0 29;");
+        r.eq("0 in sun, 1 behind it", x.order(0), 0);
+        r.eq("by 12", x.most(1), 12);
+        x.clouds(0, 1, false);
+        x.clouds(4, 9, false);
+        r.eq("by 4", x.most(1), 4);
+        r.eq("1 ahead of the sun", x.order(0), 1);
+        r.eq("0 in sun", x.order(1), 0);
+        x.undo();
+        x.undo();
+        r.eq("as it was", x.order(0), 0);
+        CloudTakes y = Tape.planned("day 30;move 0;inside 0 2 0 29;inside 0 2 0 0;wide 0 2 20 29;");
+        r.eq("1 can be begun in 0 alone", y.order(0), 1);
+        r.eq("then 0", y.order(1), 0);
+        y.await(1);
+        r.eq("0 alone", y.order(0), 0);
+        r.noSuch("1 no more", () -> y.order(2));
     }
 
     private void order(String text, int end, int... row) {

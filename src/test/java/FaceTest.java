@@ -35,7 +35,12 @@ public final class FaceTest {
     public static void main(String[] args) throws Exception {
         face();
         classes();
-        source(Files.readString(Path.of(args[0], "src/main/java/CloudTakes.java")));
+        String text = Files.readString(Path.of(args[0], "src/main/java/CloudTakes.java"));
+        source(text);
+        Path document = Path.of(args[0], "../shared/DOC.md");
+        if (Files.exists(document)) {
+            words(Files.readString(document), text);
+        }
         System.out.println("the face and the source looked at, " + wrong + " wrong");
         if (wrong != 0) {
             System.exit(1);
@@ -75,6 +80,18 @@ public final class FaceTest {
         }
         Constructor<?>[] made = c.getDeclaredConstructors();
         holds(made.length == 1 && Modifier.isPublic(made[0].getModifiers()), "one public constructor");
+    }
+
+    /** The face as the document writes it, with the exceptions that each call declares. */
+    private static void words(String document, String text) {
+        Matcher line = Pattern.compile("(?m)^    (public .*);$").matcher(document);
+        int lines = 0;
+        while (line.find()) {
+            lines++;
+            String due = "    " + line.group(1);
+            holds(text.contains(due + " {\n") || text.contains(due + ";\n"), "not as the document writes it:" + due);
+        }
+        holds(lines == FACE.size() + 2, "the document's face has " + lines + " lines");
     }
 
     private static void classes() {
